@@ -226,7 +226,7 @@ public final class FlowDesk {
 
         private boolean isWellFormed(int flowCount) {
             Arrays.fill(ends, 0);
-            return length > 0 && readOne(0, 0, flowCount) == length;
+            return readOne(0, 0, flowCount) == length;
         }
 
         /** Notes the ends of the expression at a byte and of those in it; its end, or NONE if it is malformed. */
@@ -601,7 +601,6 @@ public final class FlowDesk {
             for (int number = 0; number < network.count; number++) {
                 Flow row = network.rows[number];
                 row.isPresent = false;
-                row.latest = 0;
                 Arrays.fill(row.expression.past, 0);
             }
         }
@@ -710,9 +709,8 @@ public final class FlowDesk {
                 case AND:
                     return left & right;
                 case OR:
-                    return left | right;
                 default:
-                    return 0;
+                    return left | right;
             }
         }
     }
