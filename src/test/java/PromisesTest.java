@@ -47,7 +47,7 @@ public final class PromisesTest {
         return desk;
     }
 
-    /** A checked desk: a bool input 0 and an int input 1, both on the basic clock. */
+    /** A new desk with a bool input 0 and an int input 1, both on the basic clock. */
     private static FlowDesk inputs() {
         FlowDesk desk = new FlowDesk();
         desk.flow(true, 0, true);
