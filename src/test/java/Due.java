@@ -1,104 +1,47 @@
-import java.util.NoSuchElementException;
-
-/** What tests share: counting answers that are not the ones due, and typing rows of bytes. */
+/** Counts answers, and tells those that are not the ones due. */
 final class Due {
-    static final long ILLEGAL_ARGUMENT = Long.MIN_VALUE;
-    static final long ILLEGAL_STATE = Long.MIN_VALUE + 1;
-    static final long NO_SUCH_ELEMENT = Long.MIN_VALUE + 2;
-    static final long OTHER = Long.MIN_VALUE + 3;
+    private static final int MOST_TOLD = 50;
 
     private static int asked = 0;
     private static int wrong = 0;
+    private static String test = "";
 
     private Due() {
     }
 
-    interface Call {
-        long answer();
+    /** What is told of the answers from here on: which test they belong to. */
+    static void begin(String name) {
+        test = name;
     }
 
-    interface Act {
-        void run();
-    }
-
-    static long answer(Call call) {
-        try {
-            return call.answer();
-        } catch (RuntimeException thrown) {
-            return codeOf(thrown);
-        }
-    }
-
-    static long outcome(Act act) {
-        return answer(() -> {
-            act.run();
-            return 0;
-        });
-    }
-
-    private static long codeOf(RuntimeException thrown) {
-        if (thrown.getClass() == IllegalArgumentException.class) {
-            return ILLEGAL_ARGUMENT;
-        }
-        if (thrown.getClass() == IllegalStateException.class) {
-            return ILLEGAL_STATE;
-        }
-        return thrown.getClass() == NoSuchElementException.class ? NO_SUCH_ELEMENT : OTHER;
-    }
-
-    static void is(String what, long due, Call call) {
-        same(what, due, answer(call));
-    }
-
-    static void done(String what, Act act) {
-        same(what, 0, outcome(act));
-    }
-
-    static void thrown(String what, long due, Act act) {
-        same(what, due, outcome(act));
+    /** The latest call of a desk has answered this. */
+    static void is(long due, long got) {
+        same(Desk.latestCall(), due, got);
     }
 
     static void same(String what, long due, long got) {
         asked++;
         if (due != got) {
-            wrong++;
-            if (wrong <= 50) {
-                System.out.println(what + " answered " + name(got) + ", due is " + name(due));
-            }
+            miss(what + " answered " + Desk.nameOf(got) + ", due is " + Desk.nameOf(due));
         }
     }
 
-    private static String name(long answer) {
-        if (answer == ILLEGAL_ARGUMENT) {
-            return "throws.IllegalArgumentException";
-        }
-        if (answer == ILLEGAL_STATE) {
-            return "throws.IllegalStateException";
-        }
-        if (answer == NO_SUCH_ELEMENT) {
-            return "throws.NoSuchElementException";
-        }
-        return answer == OTHER ? "another exception" : Long.toString(answer);
-    }
-
-    static void type(FlowDesk desk, int... bytes) {
-        for (int from = 0; from < bytes.length; from += 8) {
-            int n = Math.min(8, bytes.length - from);
-            long packed = 0;
-            for (int i = 0; i < n; i++) {
-                packed = packed << 8 | bytes[from + i];
-            }
-            desk.type(packed, n);
+    static void holds(String what, boolean is) {
+        asked++;
+        if (!is) {
+            miss(what);
         }
     }
 
-    static void define(FlowDesk desk, int flow, int... bytes) {
-        type(desk, bytes);
-        desk.equation(flow);
+    private static void miss(String what) {
+        wrong++;
+        if (wrong <= MOST_TOLD) {
+            System.out.println(test + ": " + what);
+        }
     }
 
-    static boolean anyWrong() {
-        return wrong > 0;
+    static int wrongSoFar() {
+        return wrong;
     }
 
     static void end() {

@@ -28,25 +28,26 @@ public final class FaceTest {
 
     public static void main(String[] args) {
         Class<?> desk = FlowDesk.class;
-        Due.same("public and final", Modifier.PUBLIC | Modifier.FINAL, desk.getModifiers() & ~Modifier.SYNCHRONIZED);
+        Due.begin("The public face");
+        Due.same("the modifiers of the class", Modifier.PUBLIC | Modifier.FINAL, desk.getModifiers());
         List<String> seen = new ArrayList<>();
         for (Method method : desk.getDeclaredMethods()) {
             if (!Modifier.isPrivate(method.getModifiers())) {
                 seen.add(describe(method));
-                Due.same(method.getName() + " is public", Modifier.PUBLIC, method.getModifiers());
+                Due.same("the modifiers of " + method.getName(), Modifier.PUBLIC, method.getModifiers());
             }
         }
         List<String> face = new ArrayList<>(Arrays.asList(FACE));
         seen.sort(null);
         face.sort(null);
-        Due.same("the methods " + seen, 1, seen.equals(face) ? 1 : 0);
+        Due.holds("the methods are " + seen, seen.equals(face));
         for (Field field : desk.getDeclaredFields()) {
-            Due.same(field.getName() + " is private", 1, Modifier.isPrivate(field.getModifiers()) ? 1 : 0);
+            Due.holds(field.getName() + " is not private", Modifier.isPrivate(field.getModifiers()));
         }
         Constructor<?>[] constructors = desk.getDeclaredConstructors();
-        Due.same("one constructor", 1, constructors.length);
-        Due.same("without parameters", 0, constructors[0].getParameterCount());
-        Due.same("public", Modifier.PUBLIC, constructors[0].getModifiers());
+        Due.same("the number of constructors", 1, constructors.length);
+        Due.same("the number of its parameters", 0, constructors[0].getParameterCount());
+        Due.same("its modifiers", Modifier.PUBLIC, constructors[0].getModifiers());
         nested(desk);
         Due.end();
     }
@@ -54,13 +55,14 @@ public final class FaceTest {
     private static void nested(Class<?> desk) {
         List<String> names = Stream.of(FACE).map(line -> line.split("[ (]")[1]).collect(Collectors.toList());
         Class<?>[] inside = desk.getDeclaredClasses();
-        Due.same("at most twelve classes", 1, inside.length < 12 ? 1 : 0);
+        Due.holds("there are more than twelve classes", inside.length < 12);
         for (Class<?> one : inside) {
             int modifiers = one.getModifiers();
-            Due.same(one + " is static", 1, Modifier.isStatic(modifiers) ? 1 : 0);
-            Due.same(one + " is hidden", 0, modifiers & (Modifier.PUBLIC | Modifier.PROTECTED));
+            Due.holds(one + " is not static", Modifier.isStatic(modifiers));
+            Due.holds(one + " can be seen", (modifiers & (Modifier.PUBLIC | Modifier.PROTECTED)) == 0);
             for (Method method : one.getDeclaredMethods()) {
-                Due.same(method + " has a name of its own", 0, names.contains(method.getName()) ? 1 : 0);
+                boolean taken = Modifier.isPrivate(method.getModifiers()) && names.contains(method.getName());
+                Due.holds(method + " bears the name of a public method", !taken);
             }
         }
     }

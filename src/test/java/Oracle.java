@@ -40,10 +40,10 @@ final class Oracle {
             good |= rows.get(k).bool && (clock == 1 + 2 * k || clock == 2 + 2 * k);
         }
         if (!good) {
-            return Due.ILLEGAL_ARGUMENT;
+            return Desk.ARGUMENT;
         }
         if (rows.size() == 12) {
-            return Due.ILLEGAL_STATE;
+            return Desk.STATE;
         }
         Row row = new Row();
         row.bool = bool;
@@ -56,10 +56,10 @@ final class Oracle {
 
     long type(long bytes, int n) {
         if (n < 1 || n > 8) {
-            return Due.ILLEGAL_ARGUMENT;
+            return Desk.ARGUMENT;
         }
         if (draft.size() + n > 40) {
-            return Due.ILLEGAL_STATE;
+            return Desk.STATE;
         }
         List<Integer> added = new ArrayList<>();
         for (int i = 0; i < n; i++) {
@@ -74,12 +74,12 @@ final class Oracle {
         List<Integer> bytes = draft;
         draft = new ArrayList<>();
         if (!isFlow(flow) || rows.get(flow).input) {
-            return Due.ILLEGAL_ARGUMENT;
+            return Desk.ARGUMENT;
         }
         int[] at = {0};
         Node node = parse(bytes, at);
         if (node == null || at[0] != bytes.size() || height(node) > 10) {
-            return Due.ILLEGAL_ARGUMENT;
+            return Desk.ARGUMENT;
         }
         rows.get(flow).equation = node;
         changed();
@@ -299,14 +299,14 @@ final class Oracle {
 
     long fault(int what) {
         if (what < 0 || what > 1) {
-            return Due.ILLEGAL_ARGUMENT;
+            return Desk.ARGUMENT;
         }
         return what == 0 ? faultFlow : faultByte;
     }
 
     long order(int k) {
         if (rule != 0) {
-            return Due.ILLEGAL_STATE;
+            return Desk.STATE;
         }
         List<Integer> order = new ArrayList<>();
         Set<Integer> left = new HashSet<>();
@@ -321,14 +321,14 @@ final class Oracle {
             left.remove(lowest);
             order.add(lowest);
         }
-        return k < 0 || k >= order.size() ? Due.NO_SUCH_ELEMENT : order.get(k);
+        return k < 0 || k >= order.size() ? Desk.ELEMENT : order.get(k);
     }
 
     // Running.
 
     long set(int flow, int value) {
         if (!isFlow(flow) || !rows.get(flow).input) {
-            return Due.ILLEGAL_ARGUMENT;
+            return Desk.ARGUMENT;
         }
         rows.get(flow).host = rows.get(flow).bool ? (value != 0 ? 1 : 0) : value;
         return 0;
@@ -336,10 +336,10 @@ final class Oracle {
 
     long instants(int n) {
         if (n < 1 || n > 50) {
-            return Due.ILLEGAL_ARGUMENT;
+            return Desk.ARGUMENT;
         }
         if (rule != 0) {
-            return Due.ILLEGAL_STATE;
+            return Desk.STATE;
         }
         for (int i = 0; i < n; i++) {
             time++;
@@ -448,26 +448,26 @@ final class Oracle {
 
     long present(int flow) {
         if (!isFlow(flow)) {
-            return Due.ILLEGAL_ARGUMENT;
+            return Desk.ARGUMENT;
         }
         return time > 0 && rows.get(flow).values.get(time - 1) != null ? 1 : 0;
     }
 
     long value(int flow) {
         if (!isFlow(flow)) {
-            return Due.ILLEGAL_ARGUMENT;
+            return Desk.ARGUMENT;
         }
         for (int t = time - 1; t >= 0; t--) {
             if (rows.get(flow).values.get(t) != null) {
                 return rows.get(flow).values.get(t);
             }
         }
-        return Due.NO_SUCH_ELEMENT;
+        return Desk.ELEMENT;
     }
 
     long seen(int flow) {
         if (!isFlow(flow)) {
-            return Due.ILLEGAL_ARGUMENT;
+            return Desk.ARGUMENT;
         }
         return rows.get(flow).values.stream().filter(value -> value != null).count();
     }

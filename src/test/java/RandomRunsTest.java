@@ -4,32 +4,33 @@ import java.util.Random;
 
 /** Random runs of calls, the same ones each time, on a desk and on the oracle beside it. */
 public final class RandomRunsTest {
-    private static final int RUNS = 6000;
-    private static final int CALLS = 120;
+    private static final int RUNS = 8000;
+    /** No step of a run makes more calls: that many are made when a row of 100 bytes is typed one by one. */
+    private static final int STEP = 101;
 
     private final Random random;
-    private final FlowDesk desk = new FlowDesk();
+    private final Desk desk = new Desk();
     private final Oracle oracle = new Oracle();
-    private final String name;
     private static final int[] rules = new int[6];
     private static int ran = 0;
 
     private RandomRunsTest(int run) {
         random = new Random(run);
-        name = "run " + run + ": ";
+        Due.begin("run " + run);
     }
 
     public static void main(String[] args) {
-        for (int run = 0; run < RUNS && !Due.anyWrong(); run++) {
+        for (int run = 0; run < RUNS && Due.wrongSoFar() == 0; run++) {
             new RandomRunsTest(run).go();
         }
+        Due.begin("all runs");
         // Random runs that never reach a rule, or hardly any instant, would test nothing there.
         for (int rule = 0; rule < rules.length; rule++) {
             System.out.println("checks with answer " + rule + ": " + rules[rule]);
-            Due.same("rule " + rule + " comes up often", 1, rules[rule] >= 200 ? 1 : 0);
+            Due.holds("rule " + rule + " comes up too seldom", rules[rule] >= 200);
         }
         System.out.println("instants: " + ran);
-        Due.same("instants come up often", 1, ran >= 100000 ? 1 : 0);
+        Due.holds("instants come up too seldom", ran >= 100000);
         Due.end();
     }
 
@@ -46,7 +47,7 @@ public final class RandomRunsTest {
         if (tidy || chance(90)) {
             defineAll(tidy ? 0 : 25);
         }
-        for (int call = 0; call < CALLS; call++) {
+        while (desk.callsLeft() >= STEP) {
             anyCall(tidy);
         }
     }
@@ -69,7 +70,7 @@ public final class RandomRunsTest {
         } else if (pick < 40) {
             int flow = anyFlow();
             int value = chance(50) ? random.nextInt(3) - 1 : random.nextInt();
-            Due.same(name + "set", oracle.set(flow, value), Due.outcome(() -> desk.set(flow, value)));
+            Due.is(oracle.set(flow, value), desk.set(flow, value));
         } else if (pick < 70) {
             instants();
         } else {
@@ -90,7 +91,7 @@ public final class RandomRunsTest {
         boolean bool = chance(50);
         boolean input = chance(40);
         int clock = chance(5) ? random.nextInt(30) - 2 : chance(40) ? 0 : clocks.get(random.nextInt(clocks.size()));
-        Due.same(name + "flow", oracle.flow(bool, clock, input), Due.answer(() -> desk.flow(bool, clock, input)));
+        Due.is(oracle.flow(bool, clock, input), desk.flow(bool, clock, input));
     }
 
     private void defineAll(int careless) {
@@ -113,7 +114,7 @@ public final class RandomRunsTest {
             write(bytes, bool, clock, chance(10) ? 11 : random.nextInt(6), new Around(flow, false, false), careless);
         } while (bytes.size() > limit);
         typeAll(bytes);
-        Due.same(name + "equation", oracle.equation(flow), Due.outcome(() -> desk.equation(flow)));
+        Due.is(oracle.equation(flow), desk.equation(flow));
     }
 
     /** Where an expression stands: whose equation, within a BEFORE, and whether it may be nothing. */
@@ -242,11 +243,11 @@ public final class RandomRunsTest {
         int n = random.nextInt(12) - 2;
         if (chance(30)) {
             long packed = random.nextLong();
-            Due.same(name + "type", oracle.type(packed, n), Due.outcome(() -> desk.type(packed, n)));
+            Due.is(oracle.type(packed, n), desk.type(packed, n));
         }
         if (chance(50)) {
             int flow = anyFlow();
-            Due.same(name + "scribbled", oracle.equation(flow), Due.outcome(() -> desk.equation(flow)));
+            Due.is(oracle.equation(flow), desk.equation(flow));
         }
     }
 
@@ -258,8 +259,7 @@ public final class RandomRunsTest {
             for (int i = 0; i < n; i++) {
                 packed = packed << 8 | bytes.get(from + i);
             }
-            long sent = packed;
-            Due.same(name + "type", oracle.type(sent, n), Due.outcome(() -> desk.type(sent, n)));
+            Due.is(oracle.type(packed, n), desk.type(packed, n));
             from += n;
         }
     }
@@ -267,12 +267,11 @@ public final class RandomRunsTest {
     private void check() {
         long due = oracle.check();
         rules[(int) due]++;
-        Due.same(name + "check", due, Due.answer(desk::check));
-        Due.same(name + "fault 0", oracle.fault(0), Due.answer(() -> desk.fault(0)));
-        Due.same(name + "fault 1", oracle.fault(1), Due.answer(() -> desk.fault(1)));
+        Due.is(due, desk.check());
+        Due.is(oracle.fault(0), desk.fault(0));
+        Due.is(oracle.fault(1), desk.fault(1));
         for (int k = -1; k <= oracle.flows(); k++) {
-            int at = k;
-            Due.same(name + "order " + k, oracle.order(k), Due.answer(() -> desk.order(at)));
+            Due.is(oracle.order(k), desk.order(k));
         }
     }
 
@@ -280,21 +279,30 @@ public final class RandomRunsTest {
         int n = chance(5) ? random.nextInt(60) - 5 : 1 + random.nextInt(3);
         long due = oracle.instants(n);
         ran += due == 0 ? n : 0;
-        Due.same(name + "instants", due, Due.outcome(() -> desk.instants(n)));
+        Due.is(due, desk.instants(n));
         look();
     }
 
     private void look() {
-        Due.same(name + "time", oracle.time(), Due.answer(desk::time));
-        Due.same(name + "flows", oracle.flows(), Due.answer(desk::flows));
+        Due.is(oracle.time(), desk.time());
+        Due.is(oracle.flows(), desk.flows());
         int what = random.nextInt(5) - 1;
-        Due.same(name + "fault", oracle.fault(what), Due.answer(() -> desk.fault(what)));
-        Due.same(name + "order", oracle.order(what), Due.answer(() -> desk.order(what)));
+        Due.is(oracle.fault(what), desk.fault(what));
+        Due.is(oracle.order(what), desk.order(what));
         for (int flow = -1; flow <= oracle.flows(); flow++) {
-            int number = flow;
-            Due.same(name + "present " + flow, oracle.present(flow), Due.answer(() -> desk.present(number) ? 1 : 0));
-            Due.same(name + "value " + flow, oracle.value(flow), Due.answer(() -> desk.value(number)));
-            Due.same(name + "seen " + flow, oracle.seen(flow), Due.answer(() -> desk.seen(number)));
+            lookAt(flow);
+        }
+    }
+
+    /** One of three questions: a run that asked all of them each time would soon be at its last call. */
+    private void lookAt(int flow) {
+        int pick = random.nextInt(4);
+        if (pick == 0) {
+            Due.is(oracle.present(flow), desk.present(flow));
+        } else if (pick == 1) {
+            Due.is(oracle.seen(flow), desk.seen(flow));
+        } else {
+            Due.is(oracle.value(flow), desk.value(flow));
         }
     }
 }
