@@ -1,6 +1,7 @@
 import java.io.IOException;
 import java.nio.file.Files;
 import java.nio.file.Path;
+import java.util.Arrays;
 import java.util.LinkedHashMap;
 import java.util.Map;
 
@@ -35,7 +36,7 @@ final class Document {
         int at = text.indexOf(words);
         boolean found = at >= 0;
         while (at >= 0) {
-            java.util.Arrays.fill(quoted.get(heading), at, at + words.length(), true);
+            Arrays.fill(quoted.get(heading), at, at + words.length(), true);
             at = text.indexOf(words, at + 1);
         }
         return found;

@@ -1,10 +1,12 @@
 /** Counts answers, and tells those that are not the ones due. */
 final class Due {
-    private static final int MOST_TOLD = 50;
+    /** Of each test: its words are to be found among the others even when many fail. */
+    private static final int MOST_TOLD = 5;
 
     private static int asked = 0;
     private static int wrong = 0;
     private static String test = "";
+    private static int wrongOfTest = 0;
 
     private Due() {
     }
@@ -12,6 +14,7 @@ final class Due {
     /** What is told of the answers from here on: which test they belong to. */
     static void begin(String name) {
         test = name;
+        wrongOfTest = 0;
     }
 
     /** The latest call of a desk has answered this. */
@@ -35,7 +38,8 @@ final class Due {
 
     private static void miss(String what) {
         wrong++;
-        if (wrong <= MOST_TOLD) {
+        wrongOfTest++;
+        if (wrongOfTest <= MOST_TOLD) {
             System.out.println(test + ": " + what);
         }
     }

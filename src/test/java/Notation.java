@@ -96,6 +96,13 @@ abstract class Notation {
         return join(row(18, k), e, f);
     }
 
+    /** -(8 + (4 - end)), written in just 40 bytes if the end, which begins at byte 38, has two. */
+    static int[] fortyBytes(int[] end) {
+        int[] two = add(number(1), number(1));
+        int[] four = add(two, two);
+        return minus(add(add(four, four), add(four, minus(end))));
+    }
+
     /** 1 at the first instant of its clock, and one more at each other; itself the equation of a flow. */
     static int[] counter(int itself) {
         return first(number(1), add(number(1), before(flow(itself))));

@@ -115,7 +115,8 @@ final class PromisesOfBuilding extends Notation {
     @Says(under = "Promise 2", words = NO_CLOCK)
     static void aFlowWithAWrongClockChangesNothing() {
         for (Desk desk : new Desk[] {running(), failing()}) {
-            desk.refuses(ARGUMENT, () -> desk.flow(true, -1, true), () -> desk.flow(false, 3, false), () -> desk.flow(true, 7, true));
+            desk.refuses(ARGUMENT,
+                () -> desk.flow(true, -1, true), () -> desk.flow(false, 3, false), () -> desk.flow(true, 7, true));
         }
         Desk desk = running();
         Due.is(ARGUMENT, desk.flow(true, 7, true));
@@ -256,11 +257,7 @@ final class PromisesOfBuilding extends Notation {
     @Says(under = "Promise 3", words = "IllegalStateException: there would be more than 40.")
     static void aRefusedCallAppendsNone() {
         Desk desk = writer();
-        int[] two = add(number(1), number(1));
-        int[] four = add(two, two);
-        int[] forty = minus(add(add(four, four), add(four, minus(number(1)))));
-        Due.same("the bytes of the row", 40, forty.length);
-        desk.write(Arrays.copyOf(forty, 38));
+        desk.write(Arrays.copyOf(fortyBytes(number(1)), 38));
         Due.is(STATE, desk.type(0x00_81_05, 3));
         Due.is(STATE, desk.type(0x05, 8));
         Due.is(DONE, desk.type(0x00_81, 2));

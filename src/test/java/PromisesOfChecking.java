@@ -163,7 +163,8 @@ final class PromisesOfChecking extends Notation {
         }
         Desk failed = deskFor(minus(yes()));
         failed.fails(2, 2, 1);
-        failed.refuses(ARGUMENT, () -> failed.fault(-1), () -> failed.fault(2), () -> failed.fault(LOWEST), () -> failed.fault(HIGHEST));
+        failed.refuses(ARGUMENT,
+            () -> failed.fault(-1), () -> failed.fault(2), () -> failed.fault(LOWEST), () -> failed.fault(HIGHEST));
         Desk passed = deskFor(number(1));
         passed.passes();
         passed.refuses(ARGUMENT, () -> passed.fault(-1), () -> passed.fault(2));

@@ -271,7 +271,8 @@ final class PromisesOfRunning extends Notation {
     @Says(under = "Promise 12", words = "NoSuchElementException: it was never there since the instants began.")
     static void aFlowThatWasNeverThereHasNoValue() {
         Desk desk = nested();
-        desk.refuses(ELEMENT, () -> desk.value(0), () -> desk.value(1), () -> desk.value(2), () -> desk.value(3), () -> desk.value(4));
+        desk.refuses(ELEMENT,
+            () -> desk.value(0), () -> desk.value(1), () -> desk.value(2), () -> desk.value(3), () -> desk.value(4));
         desk.go(50);
         Due.is(0, desk.value(0));
         Due.is(ELEMENT, desk.value(1));

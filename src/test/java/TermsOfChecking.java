@@ -1,5 +1,10 @@
 /** The terms: the five rules of checking, each with where it fails. */
 final class TermsOfChecking extends Notation {
+    private static final String IN_ORDER =
+        "CHECKING looks at all flows, in order, by these rules, the first rule for all flows before the second, and so on;";
+    private static final String LOWEST_BYTE =
+        "it FAILS with the number of the rule, at the flow, and the lowest byte of its equation (0 for 1 and 5) at which:";
+
     private static final int BOOL_INPUT = 0;
     private static final int INT_INPUT = 1;
     private static final int WHERE_TRUE = 2;
@@ -40,8 +45,7 @@ final class TermsOfChecking extends Notation {
 
     // The order of the rules, and what a failure tells.
 
-    @Says(under = "Terms",
-        words = "CHECKING looks at all flows, in order, by these rules, the first rule for all flows before the second, and so on;")
+    @Says(under = "Terms", words = IN_ORDER)
     static void theFirstRuleForAllFlowsComesBeforeTheSecond() {
         Desk desk = new Desk();
         int bool = desk.boolInput(0);
@@ -66,8 +70,7 @@ final class TermsOfChecking extends Notation {
         desk.passes();
     }
 
-    @Says(under = "Terms",
-        words = "CHECKING looks at all flows, in order, by these rules, the first rule for all flows before the second, and so on;")
+    @Says(under = "Terms", words = IN_ORDER)
     static void theLowestOfTwoFlowsWithOneFaultIsTold() {
         int[][] faulty = {yes(), when(0, number(1)), before(number(1))};
         for (int i = 0; i < faulty.length; i++) {
@@ -85,8 +88,7 @@ final class TermsOfChecking extends Notation {
         }
     }
 
-    @Says(under = "Terms",
-        words = "it FAILS with the number of the rule, at the flow, and the lowest byte of its equation (0 for 1 and 5) at which:")
+    @Says(under = "Terms", words = LOWEST_BYTE)
     static void theLowestByteOfSeveralIsTold() {
         fails(2, INT, 2, add(minus(yes()), minus(yes())));
         fails(2, INT, 4, add(minus(number(1)), yes()));
@@ -96,20 +98,14 @@ final class TermsOfChecking extends Notation {
         fails(4, INT, 8, first(number(1), add(before(number(1)), minus(before(before(number(1)))))));
     }
 
-    @Says(under = "Terms",
-        words = "it FAILS with the number of the rule, at the flow, and the lowest byte of its equation (0 for 1 and 5) at which:")
+    @Says(under = "Terms", words = LOWEST_BYTE)
     static void aByteAtTheEndOf40IsToldToo() {
-        int[] two = add(number(1), number(1));
-        int[] four = add(two, two);
-        int[] bytes = minus(add(add(four, four), add(four, minus(minus(yes())))));
-        Due.same("the bytes of the row", 40, bytes.length);
-        fails(2, INT, 39, bytes);
-        fails(2, INT, 38, minus(add(add(four, four), add(four, minus(flow(BOOL_INPUT))))));
-        fails(3, INT, 38, minus(add(add(four, four), add(four, minus(flow(WHERE_TRUE))))));
+        fails(2, INT, 39, fortyBytes(minus(yes())));
+        fails(2, INT, 38, fortyBytes(flow(BOOL_INPUT)));
+        fails(3, INT, 38, fortyBytes(flow(WHERE_TRUE)));
     }
 
-    @Says(under = "Terms",
-        words = "it FAILS with the number of the rule, at the flow, and the lowest byte of its equation (0 for 1 and 5) at which:")
+    @Says(under = "Terms", words = LOWEST_BYTE)
     static void theByteIs0ForRules1And5() {
         Desk desk = variety();
         int late = desk.intFlow(0);

@@ -53,13 +53,6 @@ final class TermsOfEquations extends Notation {
 
     // Reading.
 
-    /** Ones that are added up and turned round, in just 40 bytes, of which the end is the last two. */
-    private static int[] fortyBytes(int[] end) {
-        int[] two = add(number(1), number(1));
-        int[] four = add(two, two);
-        return minus(add(add(four, four), add(four, minus(end))));
-    }
-
     @Says(under = "Terms", words = "AN EQUATION is an EXPRESSION, a row of at most 40 bytes")
     static void fortyBytesAreAnEquationAnd41AreNot() {
         int[] bytes = fortyBytes(flow(B));
@@ -424,6 +417,10 @@ final class TermsOfEquations extends Notation {
         int[] bytes = fortyBytes(number(1));
         for (int length = 30; length < 40; length++) {
             isMalformed(full, Arrays.copyOf(bytes, length));
+        }
+        // Forty bytes, and the next one that is wanted would be the 41st.
+        for (int[] end : new int[][] {{5, 5}, {5, 0}, {5, 3}, {5, 16}, {5, 18}, {6, 1}, {13, 1}, {16, 1}}) {
+            isMalformed(full, fortyBytes(end));
         }
         // What an earlier draft had left behind its end is none of this one's bytes.
         full.define(0, bytes);

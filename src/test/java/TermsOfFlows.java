@@ -145,6 +145,24 @@ final class TermsOfFlows extends Notation {
         Due.is(3, desk.seen(inner));
     }
 
+    @Says(under = "Terms", words = "its instants are those of its own clock).")
+    static void elevenClocksMayStandOnOneAnother() {
+        Desk desk = new Desk();
+        for (int number = 0; number < 12; number++) {
+            desk.boolInput(number == 0 ? 0 : 2 * number - 1);
+            desk.host(number, 1);
+        }
+        desk.passes();
+        desk.go(2);
+        Due.is(2, desk.seen(11));
+        desk.host(5, 0);
+        desk.go(3);
+        for (int number = 0; number < 12; number++) {
+            Due.is(number <= 5 ? 1 : 0, desk.present(number));
+            Due.is(number <= 5 ? 5 : 2, desk.seen(number));
+        }
+    }
+
     @Says(under = "Terms", words = "A flow is an INPUT, which has a value from the host, or has an EQUATION, or nothing yet.")
     static void aFlowIsAnInputOrHasAnEquationOrNothing() {
         Desk desk = new Desk();
